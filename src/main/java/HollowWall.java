@@ -148,12 +148,24 @@ public final class HollowWall {
 
     // ---- TRAYS
 
-    private static boolean isTray(int tray) {
-        return isWithin(tray, 0, TRAYS - 1);
+    /** The TRAY, missing or not; null if there is no such one. */
+    private Tray trayAt(int tray) {
+        return isWithin(tray, 0, TRAYS - 1) ? trays[tray] : null;
+    }
+
+    private static int placeStatus(Tray found, int place) {
+        if (found == null) {
+            return NO_TRAY;
+        }
+        if (found.missing) {
+            return MISSING;
+        }
+        return found.hasPlace(place) ? FINE : NO_PLACE;
     }
 
     public boolean tray(int tray, int sort, int many) {
-        if (!isTray(tray) || !isWithin(sort, 0, 3)) {
+        Tray found = trayAt(tray);
+        if (found == null || !isWithin(sort, 0, 3)) {
             return deny(NO_TRAY);
         }
         if (many > TRAY_MOST) {
@@ -162,44 +174,36 @@ public final class HollowWall {
         if (many < 0) {
             return deny(BELOW_ZERO);
         }
-        trays[tray].lay(sort, many);
+        found.lay(sort, many);
         return accept();
     }
 
-    private int placeStatus(int tray, int place) {
-        if (!isTray(tray)) {
-            return NO_TRAY;
-        }
-        if (trays[tray].missing) {
-            return MISSING;
-        }
-        return isWithin(place, 0, trays[tray].length - 1) ? FINE : NO_PLACE;
-    }
-
     public boolean write(int tray, int place, long v) {
-        int found = placeStatus(tray, place);
-        if (found != FINE) {
-            return deny(found);
+        Tray found = trayAt(tray);
+        int why = placeStatus(found, place);
+        if (found == null || why != FINE) {
+            return deny(why);
         }
-        trays[tray].put(place, v);
+        found.put(place, v);
         return accept();
     }
 
     public long read(int tray, int place) {
-        int found = placeStatus(tray, place);
-        if (found != FINE) {
-            return refuse(found);
+        Tray found = trayAt(tray);
+        int why = placeStatus(found, place);
+        if (found == null || why != FINE) {
+            return refuse(why);
         }
         status = FINE;
-        return trays[tray].numbers[place];
+        return found.numbers[place];
     }
 
     public boolean pour(int tray, int i, int to, int j, int many) {
-        if (!isTray(tray) || !isTray(to)) {
+        Tray from = trayAt(tray);
+        Tray into = trayAt(to);
+        if (from == null || into == null) {
             return deny(NO_TRAY);
         }
-        Tray from = trays[tray];
-        Tray into = trays[to];
         if (from.missing || into.missing) {
             return deny(MISSING);
         }
@@ -209,7 +213,7 @@ public final class HollowWall {
         if (many < 0) {
             return deny(BELOW_ZERO);
         }
-        if (!from.holds(i, many) || !into.holds(j, many)) {
+        if (!from.hasRow(i, many) || !into.hasRow(j, many)) {
             return deny(NO_PLACE);
         }
         System.arraycopy(from.numbers, i, into.numbers, j, many);
@@ -610,22 +614,23 @@ public final class HollowWall {
     // ---- pieces, oaths, years
 
     public int fits(int tray, int many, int what) {
-        if (!isTray(tray)) {
+        Tray piece = trayAt(tray);
+        if (piece == null) {
             return refuse(NO_TRAY);
         }
-        if (trays[tray].missing) {
+        if (piece.missing) {
             return refuse(MISSING);
         }
-        if (many > trays[tray].length) {
+        if (many > piece.length) {
             return refuse(NO_PLACE);
         }
-        if (!isWithin(many, 1, PIECE_MOST) || !isWithin(what, 0, 1) || !isPiece(trays[tray], many)) {
+        if (!isWithin(many, 1, PIECE_MOST) || !isWithin(what, 0, 1) || !isPiece(piece, many)) {
             return refuse(BAD_NUMBER);
         }
         int found = 0;
         int firstFit = NONE;
         for (int s = 0; s + many <= site.wall.stones; s++) {
-            if (fitsFrom(trays[tray], many, s)) {
+            if (fitsFrom(piece, many, s)) {
                 found++;
                 firstFit = firstFit == NONE ? s : firstFit;
             }
@@ -636,9 +641,9 @@ public final class HollowWall {
         return answer(what == 0 ? found : firstFit);
     }
 
-    private static boolean isPiece(Tray tray, int many) {
-        for (int i = 0; i < many && i < TRAY_MOST; i++) {
-            if (tray.numbers[i] < NONE || tray.numbers[i] > 1) {
+    private static boolean isPiece(Tray piece, int many) {
+        for (int i = 0; i < many; i++) {
+            if (!piece.hasPlace(i) || piece.numbers[i] < NONE || piece.numbers[i] > 1) {
                 return false;
             }
         }
@@ -646,8 +651,9 @@ public final class HollowWall {
     }
 
     private boolean fitsFrom(Tray piece, int many, int stone) {
-        for (int i = 0; i < many && i < TRAY_MOST; i++) {
-            if (!site.wall.hasStone(stone + i) || !agrees((int) piece.numbers[i], site.wall.isHollow(stone + i))) {
+        for (int i = 0; i < many; i++) {
+            if (!piece.hasPlace(i) || !site.wall.hasStone(stone + i)
+                    || !agrees((int) piece.numbers[i], site.wall.isHollow(stone + i))) {
                 return false;
             }
         }
@@ -862,8 +868,13 @@ public final class HollowWall {
             }
         }
 
-        boolean holds(int place, int howMany) {
-            return isWithin(place, 0, length) && howMany <= length - place;
+        boolean hasPlace(int place) {
+            return place >= 0 && place < length;
+        }
+
+        /** No numbers at all may begin behind the last one, too. */
+        boolean hasRow(int place, int howMany) {
+            return place >= 0 && place <= length && howMany <= length - place;
         }
     }
 
@@ -1644,6 +1655,8 @@ public final class HollowWall {
         private Wall wall = new Wall();
         private int[] notes = new int[STONES_MOST];
         private boolean isFree = false;
+        private int bestCost = FAR;
+        private int bestWays = 0;
         int leastCost = FAR;
         int wayCount = 0;
         int tracedFirst = 1;
@@ -1700,27 +1713,29 @@ public final class HollowWall {
         }
 
         private void followBehind(int s, int c, int banned) {
-            int best = FAR;
-            int found = 0;
+            bestCost = FAR;
+            bestWays = 0;
             if (agrees(notes[s], c == wall.oath)) {
                 if (s + 1 >= wall.stones) {
-                    best = 0;
-                    found = 1;
+                    offer(0, 1);
                 }
                 int next = c;
                 for (int by = 0; s + 1 < wall.stones && by < wall.oath; by++) {
                     next = countBehind(next, wall.oath);
-                    int price = priceOf(s + 1, by, banned) + costBehind[s + 1][next];
-                    if (price < best) {
-                        best = price;
-                        found = waysBehind[s + 1][next];
-                    } else if (price == best && price < FAR) {
-                        found = Math.min(WAYS_MOST, found + waysBehind[s + 1][next]);
-                    }
+                    offer(priceOf(s + 1, by, banned) + costBehind[s + 1][next], waysBehind[s + 1][next]);
                 }
             }
-            costBehind[s][c] = best;
-            waysBehind[s][c] = found;
+            costBehind[s][c] = bestCost;
+            waysBehind[s][c] = bestWays;
+        }
+
+        private void offer(int cost, int found) {
+            if (cost < bestCost) {
+                bestCost = cost;
+                bestWays = found;
+            } else if (cost == bestCost && cost < FAR) {
+                bestWays = Math.min(WAYS_MOST, bestWays + found);
+            }
         }
 
         private int priceOf(int s, int by, int banned) {
@@ -1739,27 +1754,20 @@ public final class HollowWall {
         }
 
         private void followAhead(int s, int c) {
-            int best = FAR;
-            int found = 0;
+            bestCost = FAR;
+            bestWays = 0;
             if (agrees(notes[s], c == wall.oath)) {
                 if (s == 0 && mayStart(c)) {
-                    best = 0;
-                    found = 1;
+                    offer(0, 1);
                 }
                 int last = c;
                 for (int by = 0; s > 0 && by < wall.oath; by++) {
                     last = last <= 1 ? wall.oath : last - 1;
-                    int price = priceOf(s, by, NONE) + costAhead[s - 1][last];
-                    if (price < best) {
-                        best = price;
-                        found = waysAhead[s - 1][last];
-                    } else if (price == best && price < FAR) {
-                        found = Math.min(WAYS_MOST, found + waysAhead[s - 1][last]);
-                    }
+                    offer(priceOf(s, by, NONE) + costAhead[s - 1][last], waysAhead[s - 1][last]);
                 }
             }
-            costAhead[s][c] = best;
-            waysAhead[s][c] = found;
+            costAhead[s][c] = bestCost;
+            waysAhead[s][c] = bestWays;
         }
 
         private boolean isLeastAt(int s, int c) {
