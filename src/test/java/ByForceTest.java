@@ -3,6 +3,9 @@ import java.util.Random;
 
 /** Promises 13 to 23, 28 to 40 and 44 to 46 on drawn WALLS, against answers found by going through all there is. */
 public final class ByForceTest {
+    private static HollowWall used = new HollowWall();
+    private static int wallsBuilt = 0;
+
     public static void main(String[] args) {
         Random draws = new Random(7);
         for (int i = 0; i < 600; i++) {
@@ -17,14 +20,29 @@ public final class ByForceTest {
         Checks.end();
     }
 
+    /** Several WALLS are built in one object, so that what is left of those ahead would be seen. */
+    private static HollowWall built(Model m) {
+        if (wallsBuilt % 8 == 0) {
+            used = new HollowWall();
+        }
+        wallsBuilt++;
+        Checks.fine(used, "wall", Checks.wall(used, m.text), m.stones);
+        return used;
+    }
+
     private static void stones(Model m) {
-        HollowWall x = Checks.built(m.text);
+        HollowWall x = built(m);
         int price = 0;
         int[] costs = new int[5];
         int row = 0;
         int gap = 0;
         int astray = -1;
         int hollows = 0;
+        int next = -1;
+        for (int s = m.stones - 1; s >= 0; s--) {
+            next = m.isHollow(s) ? s : next;
+            Checks.same("nextHollow", x.nextHollow(s), next);
+        }
         for (int s = 0; s < m.stones; s++) {
             Checks.fine(x, "true count", x.stone(s, 3), m.trueCount(s));
             Checks.fine(x, "sworn count", x.stone(s, 4), m.swornCount(s));
@@ -46,6 +64,8 @@ public final class ByForceTest {
             }
             dated(x, m, s);
         }
+        Checks.refused(x, "hollowAt", x.hollowAt(hollows), 8);
+        Checks.refused(x, "wrong", x.wrong(), 8);
         Checks.fine(x, "hollows", x.hollows(0, m.stones - 1), hollows);
         Checks.fine(x, "price", x.price(), price);
         Checks.fine(x, "gap", x.gap(), gap);
@@ -113,7 +133,7 @@ public final class ByForceTest {
     }
 
     private static void readings(Model m, Random draws) {
-        HollowWall x = Checks.built(m.text);
+        HollowWall x = built(m);
         for (int i = draws.nextInt(m.stones + 2); i > 0; i--) {
             int s = draws.nextInt(m.stones);
             m.notes[s] = draws.nextInt(3) > 0 ? draws.nextInt(2) : m.isHollow(s) ? 1 : 0;
@@ -130,6 +150,11 @@ public final class ByForceTest {
             }
         }
         oathsAndTwice(x, m);
+        int wrong = -1;
+        for (int s = m.stones - 1; s >= 0; s--) {
+            wrong = m.notes[s] >= 0 && (m.notes[s] == 1) != (m.swornCount(s) == m.oath) ? s : wrong;
+        }
+        Checks.same("wrong", x.wrong(), wrong);
     }
 
     private static void costs(HollowWall x, Model m, List<int[]> least, boolean free) {

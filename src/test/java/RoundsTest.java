@@ -395,22 +395,38 @@ public final class RoundsTest {
 
     private static void byForce() {
         Random draws = new Random(11);
+        HollowWall x = new HollowWall();
         for (int i = 0; i < 2000; i++) {
             Model m = new Model(draws, 6, 30);
-            HollowWall x = Checks.built(m.text);
+            // Several ROUNDS come to one object, some behind a faulty one that is left open.
+            x = i % 4 == 0 ? new HollowWall() : x;
+            Checks.fine(x, "wall", Checks.wall(x, m.text), m.stones);
+            if (i % 3 == 0) {
+                Checks.refused(x, "an open round", Checks.round(x, "loop 3;when full;knock;"), 10);
+            }
             List<Step> steps = drawSteps(draws, 0, new int[] {30});
             StringBuilder told = new StringBuilder();
             tell(steps, told);
             int got = Checks.round(x, told.toString());
             if (told.length() > 300) {
                 Checks.same("above 300 bytes", x.status(), 5);
+                // The tape is emptied, so that the next text is read from its beginning.
+                x.round(0);
                 continue;
             }
-            Checks.holds("steps of " + told, got > 0 && got <= 30);
+            Checks.fine(x, "steps of " + told, got, count(steps));
             for (int k = 0; k < 3; k++) {
                 goOne(x, m, steps, draws);
             }
         }
+    }
+
+    private static int count(List<Step> steps) {
+        int all = steps.size();
+        for (Step step : steps) {
+            all += count(step.within);
+        }
+        return all;
     }
 
     private static void goOne(HollowWall x, Model m, List<Step> steps, Random draws) {
