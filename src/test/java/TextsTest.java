@@ -8,6 +8,7 @@ public final class TextsTest {
         wallsTaken();
         wallFaults();
         wallLimits();
+        cutTexts();
         names();
         oldWallStays();
         roundsTaken();
@@ -163,11 +164,35 @@ public final class TextsTest {
         wallFaultAtBar(finds + "|find at 0 year 1;", 6);
     }
 
+    /** What is on the tape behind the text is not read. */
+    private static void cutTexts() {
+        String[] cut = {"oath 7 from 1|23;", "oat|h 7 from 1;", OATH + "course 1|6;",
+            OATH + "cours|e 9;", OATH + "course 9|;", "oath 7 from 1|;"};
+        for (String text : cut) {
+            int n = text.indexOf('|');
+            HollowWall x = new HollowWall();
+            Checks.feed(x, text.replace("|", ""));
+            Checks.refused(x, text, x.wall(n), 10);
+            boolean isWordCut = text.charAt(n - 1) > '9';
+            Checks.same("fault of " + text, x.fault(0), 2);
+            Checks.same("place of " + text, x.fault(1), isWordCut ? text.lastIndexOf(';', n) + 1 : n);
+        }
+        HollowWall x = new HollowWall();
+        Checks.feed(x, OATH + "course 9;course 5;");
+        Checks.fine(x, "the first alone", x.wall(23), 9);
+        Checks.feed(x, "go 1;go 2;@");
+        Checks.fine(x, "the first alone", x.round(5), 1);
+        Checks.feed(x, "go 12;");
+        Checks.refused(x, "go 1", x.round(4), 10);
+        Checks.same("its end", x.fault(1), 4);
+    }
+
     private static void names() {
         String reserved = "oath from course mason lays costs slip at by find year go back knock note turn when hollow full"
                 + " stone noted first loop end stop";
         for (String word : reserved.split(" ")) {
             wallFaultAtBar(OATH + "mason |" + word + " lays 1 costs 1;", 2);
+            wallFaultAtBar(OATH + "mason |" + word + "\nlays 1 costs 1;", 2);
         }
         String[] good = {"a", "oat", "oaths", "abcdefgh", "no", "ote", "ends", "nd", "stopend", "z", "wall", "round"};
         for (String word : good) {
@@ -175,6 +200,7 @@ public final class TextsTest {
         }
         wallFaultAtBar(OATH + "mason |abcdefghi lays 1 costs 1;", 2);
         wallFaultAtBar(OATH + "mason a lays 1 costs 1;mason |a lays 1 costs 1;", 3);
+        wallFaultAtBar(OATH + "mason a lays 1 costs 1;mason |a\nlays 1 costs 1;", 3);
         wallFaultAtBar(OATH + "mason ab lays 1 costs 1;mason a lays 1 costs 1;mason |ab @", 3);
         taken(OATH + "course 1;mason ab lays 1 costs 1;mason a lays 1 costs 1;mason b lays 1 costs 1;mason aba lays 1 costs 2;",
             1);
