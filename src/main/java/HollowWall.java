@@ -930,12 +930,12 @@ public final class HollowWall {
 
         private void passToken(int sign) {
             value = 0;
-            if (isWithin(sign, 'a', 'z')) {
+            if (sign >= 'a' && sign <= 'z') {
                 kind = WORD;
                 while (next < textLength && bytes[next] >= 'a' && bytes[next] <= 'z') {
                     next++;
                 }
-            } else if (isWithin(sign, '0', '9')) {
+            } else if (sign >= '0' && sign <= '9') {
                 while (next < textLength && bytes[next] >= '0' && bytes[next] <= '9') {
                     value = value * 10 + bytes[next] - '0';
                     next++;
@@ -1247,16 +1247,24 @@ public final class HollowWall {
             wall.wipe();
             lastSlip = 0;
             text.begin(n);
-            if (!readOath(text)) {
-                return false;
-            }
-            for (int part = 0; part < TAPE_MOST && text.kind != Text.AT_END; part++) {
-                if (!readPart(text)) {
-                    return false;
+            boolean taken = readOath(text);
+            for (int part = 0; part < TAPE_MOST && taken && text.kind != Text.AT_END; part++) {
+                if (text.isWord("course")) {
+                    taken = readCourse(text);
+                } else if (text.isWord("mason")) {
+                    taken = readMason(text);
+                } else if (text.isWord("slip")) {
+                    taken = readSlip(text);
+                } else if (text.isWord("find")) {
+                    taken = readFind(text);
+                } else {
+                    taken = text.misplaced();
                 }
             }
-            wall.settle();
-            return true;
+            if (taken) {
+                wall.settle();
+            }
+            return taken;
         }
 
         private boolean readOath(Text text) {
@@ -1276,23 +1284,10 @@ public final class HollowWall {
             return text.takeSemicolon();
         }
 
-        private boolean readPart(Text text) {
-            if (text.isWord("course")) {
-                return wall.courses >= COURSES_MOST ? text.faultHere(MORE_FAULT) : readCourse(text);
-            }
-            if (text.isWord("mason")) {
-                return wall.masons >= MASONS_MOST ? text.faultHere(MORE_FAULT) : readMason(text);
-            }
-            if (text.isWord("slip")) {
-                return wall.slips >= SLIPS_MOST ? text.faultHere(MORE_FAULT) : readSlip(text);
-            }
-            if (text.isWord("find")) {
-                return wall.finds >= FINDS_MOST ? text.faultHere(MORE_FAULT) : readFind(text);
-            }
-            return text.misplaced();
-        }
-
         private boolean readCourse(Text text) {
+            if (wall.courses >= COURSES_MOST) {
+                return text.faultHere(MORE_FAULT);
+            }
             text.advance();
             int many = text.takeNumber(1, COURSE_STONES_MOST);
             if (many == NONE) {
@@ -1303,6 +1298,9 @@ public final class HollowWall {
         }
 
         private boolean readMason(Text text) {
+            if (wall.masons >= MASONS_MOST) {
+                return text.faultHere(MORE_FAULT);
+            }
             text.advance();
             if (!takeName(text) || !text.takeWord("lays")) {
                 return false;
@@ -1345,6 +1343,9 @@ public final class HollowWall {
         }
 
         private boolean readSlip(Text text) {
+            if (wall.slips >= SLIPS_MOST) {
+                return text.faultHere(MORE_FAULT);
+            }
             text.advance();
             if (!text.takeWord("at")) {
                 return false;
@@ -1369,6 +1370,9 @@ public final class HollowWall {
         }
 
         private boolean readFind(Text text) {
+            if (wall.finds >= FINDS_MOST) {
+                return text.faultHere(MORE_FAULT);
+            }
             text.advance();
             if (!text.takeWord("at")) {
                 return false;
