@@ -66,43 +66,19 @@ public final class TextsTest {
     }
 
     private static void wallsTaken() {
-        taken(OATH, 0);
-        taken("oath 13 from 13;course 16;", 16);
-        taken(" \n oath\n0002 from 01 ; course\n\n3 ;\n", 3);
-        taken("oath7from1;course3;masonalaysx", -1);
-        taken("oath7from1;course3;mason alays lays5costs1;slip at2by6;find at0year0000;", 3);
-        taken(OATH + "mason a lays 96 costs 9;course 2;slip at 1 by 1;course 5;slip at 5 by 2;", 7);
-    }
-
-    private static void taken(String text, int due) {
-        HollowWall x = new HollowWall();
-        int got = Checks.wall(x, text);
-        Checks.same(text, got, due);
-        Checks.same("status of " + text, x.status(), due < 0 ? 10 : 0);
-        if (due >= 0) {
-            Checks.same("no fault in " + text, x.fault(0), 0);
-            Checks.same("no place in " + text, x.fault(1), -1);
-        }
-    }
-
-    private static void wallFault(String text, int fault, int place) {
-        HollowWall x = new HollowWall();
-        Checks.refused(x, text, Checks.wall(x, text), 10);
-        Checks.same("fault of " + text, x.fault(0), fault);
-        Checks.same("place of " + text, x.fault(1), place);
-    }
-
-    /** The FAULT is at the first sign behind the bar. */
-    private static void wallFaultAtBar(String text, int fault) {
-        int bar = text.indexOf('|');
-        wallFault(text.substring(0, bar) + text.substring(bar + 1), fault, bar);
+        Faults.wallTaken(OATH, 0);
+        Faults.wallTaken("oath 13 from 13;course 16;", 16);
+        Faults.wallTaken(" \n oath\n0002 from 01 ; course\n\n3 ;\n", 3);
+        Faults.wallAtBar("oath7from1;course3;|masonalaysx", 2);
+        Faults.wallTaken("oath7from1;course3;mason alays lays5costs1;slip at2by6;find at0year0000;", 3);
+        Faults.wallTaken(OATH + "mason a lays 96 costs 9;course 2;slip at 1 by 1;course 5;slip at 5 by 2;", 7);
     }
 
     private static void wallFaults() {
         String[] first = {"|Oath 7 from 1;", "|@", "oath|\t7 from 1;", "oath |12345 from 1;", OATH + "|.", OATH + "|00001",
             OATH + "course 5|,", "oath 7 |- from 1;", OATH + "course |10000;", "|\u00e9", "oath |123456;"};
         for (String text : first) {
-            wallFaultAtBar(text, 1);
+            Faults.wallAtBar(text, 1);
         }
         String[] second = {"|", "   |", "|oaths 7", "|7", "oath|", "oath |from", "oath 7 |7", "oath 7 from |;",
             "oath 7 from 1|", "oath 7 from 1 |course", OATH + "|;", OATH + "|7", OATH + "|oath 7 from 1;",
@@ -112,11 +88,11 @@ public final class TextsTest {
             OATH + "mason |5", OATH + "mason a |costs", OATH + "mason a lays |a", OATH + "mason a lays 5 |;",
             OATH + "mason a lays 5 costs |;", OATH + "mason a lays 5 costs 5|", OATH + "|end"};
         for (String text : second) {
-            wallFaultAtBar(text, 2);
+            Faults.wallAtBar(text, 2);
         }
         // The end is told at the text's length, blanks and all.
-        wallFault("oath 7  \n", 2, 9);
-        wallFault("   ", 2, 3);
+        Faults.wall("oath 7  \n", 2, 9);
+        Faults.wall("   ", 2, 3);
         String[] fourth = {"oath |1 from 1;", "oath |14 from 1;", "oath |0 from 1;", "oath 7 from |0;", "oath 7 from |8;",
             "oath 2 from |3;", OATH + "course |0;", OATH + "course |17;", OATH + "mason a lays |0 costs 1;",
             OATH + "mason a lays |97 costs 1;", OATH + "mason a lays 5 costs |0;", OATH + "mason a lays 5 costs |10;",
@@ -124,44 +100,44 @@ public final class TextsTest {
             OATH + "course 5;slip at 1 by |0;", OATH + "course 5;slip at 1 by |7;", OATH + "find at |0 year 5;",
             OATH + "course 5;find at |5 year 5;", "oath 2 from 1;course 5;slip at 1 by |2;"};
         for (String text : fourth) {
-            wallFaultAtBar(text, 4);
+            Faults.wallAtBar(text, 4);
         }
         String[] fifth = {OATH + "course 9;slip at |0 by 1;", OATH + "course 9;slip at 3 by 1;slip at |3 by 1;",
             OATH + "course 9;slip at 3 by 1;slip at |2 by 1;", OATH + "course 9;slip at 3 by 1;slip at |0 by 1;",
             OATH + "course 9;find at 3 year 1;find at |3 year 1;", OATH + "course 9;find at 0 year 0;find at |0 by",
             OATH + "course 9;slip at |0 "};
         for (String text : fifth) {
-            wallFaultAtBar(text, 5);
+            Faults.wallAtBar(text, 5);
         }
         // the first along the text
-        wallFaultAtBar("oath |1 from 9;@", 4);
-        wallFaultAtBar(OATH + "course |0 @", 4);
-        wallFaultAtBar(OATH + "course 5;slip at |7 @", 4);
+        Faults.wallAtBar("oath |1 from 9;@", 4);
+        Faults.wallAtBar(OATH + "course |0 @", 4);
+        Faults.wallAtBar(OATH + "course 5;slip at |7 @", 4);
     }
 
     private static void wallLimits() {
         String courses = OATH + "course 1;".repeat(6);
-        taken(courses, 6);
-        wallFaultAtBar(courses + "|course 1;", 6);
-        wallFaultAtBar(courses + "|course @", 6);
-        taken(OATH + "course 16;".repeat(6), 96);
+        Faults.wallTaken(courses, 6);
+        Faults.wallAtBar(courses + "|course 1;", 6);
+        Faults.wallAtBar(courses + "|course @", 6);
+        Faults.wallTaken(OATH + "course 16;".repeat(6), 96);
         String masons = OATH + "mason a lays 1 costs 1;mason b lays 1 costs 1;mason c lays 1 costs 1;"
                 + "mason d lays 1 costs 1;";
-        taken(masons, 0);
-        wallFaultAtBar(masons + "|mason a lays 1 costs 1;", 6);
+        Faults.wallTaken(masons, 0);
+        Faults.wallAtBar(masons + "|mason a lays 1 costs 1;", 6);
         StringBuilder slips = new StringBuilder(OATH).append("course 9;");
         for (int i = 1; i <= 6; i++) {
             slips.append("slip at ").append(i).append(" by 1;");
         }
-        taken(slips.toString(), 9);
-        wallFaultAtBar(slips + "|slip at 1 by 1;", 6);
+        Faults.wallTaken(slips.toString(), 9);
+        Faults.wallAtBar(slips + "|slip at 1 by 1;", 6);
         StringBuilder finds = new StringBuilder(OATH).append("course 9;");
         for (int i = 8; i > 0; i--) {
             finds.append("find at ").append(i).append(" year ").append(i).append(";");
         }
-        taken(finds.toString(), 9);
-        wallFaultAtBar(finds + "|find at 1 year 1;", 6);
-        wallFaultAtBar(finds + "|find at 0 year 1;", 6);
+        Faults.wallTaken(finds.toString(), 9);
+        Faults.wallAtBar(finds + "|find at 1 year 1;", 6);
+        Faults.wallAtBar(finds + "|find at 0 year 1;", 6);
     }
 
     /** What is on the tape behind the text is not read. */
@@ -191,18 +167,18 @@ public final class TextsTest {
         String reserved = "oath from course mason lays costs slip at by find year go back knock note turn when hollow full"
                 + " stone noted first loop end stop";
         for (String word : reserved.split(" ")) {
-            wallFaultAtBar(OATH + "mason |" + word + " lays 1 costs 1;", 2);
-            wallFaultAtBar(OATH + "mason |" + word + "\nlays 1 costs 1;", 2);
+            Faults.wallAtBar(OATH + "mason |" + word + " lays 1 costs 1;", 2);
+            Faults.wallAtBar(OATH + "mason |" + word + "\nlays 1 costs 1;", 2);
         }
         String[] good = {"a", "oat", "oaths", "abcdefgh", "no", "ote", "ends", "nd", "stopend", "z", "wall", "round"};
         for (String word : good) {
-            taken(OATH + "course 2;mason " + word + " lays 1 costs 1;", 2);
+            Faults.wallTaken(OATH + "course 2;mason " + word + " lays 1 costs 1;", 2);
         }
-        wallFaultAtBar(OATH + "mason |abcdefghi lays 1 costs 1;", 2);
-        wallFaultAtBar(OATH + "mason a lays 1 costs 1;mason |a lays 1 costs 1;", 3);
-        wallFaultAtBar(OATH + "mason a lays 1 costs 1;mason |a\nlays 1 costs 1;", 3);
-        wallFaultAtBar(OATH + "mason ab lays 1 costs 1;mason a lays 1 costs 1;mason |ab @", 3);
-        taken(OATH + "course 1;mason ab lays 1 costs 1;mason a lays 1 costs 1;mason b lays 1 costs 1;mason aba lays 1 costs 2;",
+        Faults.wallAtBar(OATH + "mason |abcdefghi lays 1 costs 1;", 2);
+        Faults.wallAtBar(OATH + "mason a lays 1 costs 1;mason |a lays 1 costs 1;", 3);
+        Faults.wallAtBar(OATH + "mason a lays 1 costs 1;mason |a\nlays 1 costs 1;", 3);
+        Faults.wallAtBar(OATH + "mason ab lays 1 costs 1;mason a lays 1 costs 1;mason |ab @", 3);
+        Faults.wallTaken(OATH + "course 1;mason ab lays 1 costs 1;mason a lays 1 costs 1;mason b lays 1 costs 1;mason aba lays 1 costs 2;",
             1);
         // NAMES are of one WALL alone.
         HollowWall x = Checks.built(OATH + "mason a lays 1 costs 1;");
@@ -232,61 +208,45 @@ public final class TextsTest {
         Checks.fine(x, "no slip now", x.stone(3, 3), 6);
     }
 
-    private static void roundTaken(String text, int steps) {
-        HollowWall x = new HollowWall();
-        Checks.fine(x, text, Checks.round(x, text), steps);
-        Checks.same("no fault", x.fault(0), 0);
-        Checks.same("no place", x.fault(1), -1);
-    }
-
-    private static void roundFaultAtBar(String text, int fault) {
-        int bar = text.indexOf('|');
-        HollowWall x = new HollowWall();
-        String clean = text.substring(0, bar) + text.substring(bar + 1);
-        Checks.refused(x, clean, Checks.round(x, clean), 10);
-        Checks.same("fault of " + clean, x.fault(0), fault);
-        Checks.same("place of " + clean, x.fault(1), bar);
-    }
-
     private static void roundsTaken() {
-        roundTaken("", 0);
-        roundTaken(" \n ", 0);
-        roundTaken("go 1;back 99;knock;note;turn;stop;", 6);
-        roundTaken("when hollow;end;when full;end;when noted;end;when first;end;", 4);
-        roundTaken("when stone<0;end;when stone > 99 ; end;when stone=50;knock;end;", 4);
-        roundTaken("loop 1;loop 99;when full;end;end;end;", 3);
-        roundTaken("loop 1;loop 2;loop 3;end;end;end;loop 1;end;", 4);
-        roundTaken("go1;back2;", 2);
-        roundTaken("stop;".repeat(30), 30);
-        roundTaken("loop 9;end;".repeat(27), 27);
-        roundTaken("when full;end;".repeat(20) + "go 1;", 21);
+        Faults.roundTaken("", 0);
+        Faults.roundTaken(" \n ", 0);
+        Faults.roundTaken("go 1;back 99;knock;note;turn;stop;", 6);
+        Faults.roundTaken("when hollow;end;when full;end;when noted;end;when first;end;", 4);
+        Faults.roundTaken("when stone<0;end;when stone > 99 ; end;when stone=50;knock;end;", 4);
+        Faults.roundTaken("loop 1;loop 99;when full;end;end;end;", 3);
+        Faults.roundTaken("loop 1;loop 2;loop 3;end;end;end;loop 1;end;", 4);
+        Faults.roundTaken("go1;back2;", 2);
+        Faults.roundTaken("stop;".repeat(30), 30);
+        Faults.roundTaken("loop 9;end;".repeat(27), 27);
+        Faults.roundTaken("when full;end;".repeat(20) + "go 1;", 21);
     }
 
     private static void roundFaults() {
         String[] first = {"|@", "go |12345;", "|00000;", "knock|?", "when stone |!", "stop|:"};
         for (String text : first) {
-            roundFaultAtBar(text, 1);
+            Faults.roundAtBar(text, 1);
         }
         String[] second = {"|end;", "knock;|end;", "loop 1;end;|end;", "loop 1;|", "when full;end;when full;knock;|",
             "go|", "go |;", "knock |knock;", "knock|", "go 1|", "|1", "|;", "|course 1;", "when |go;", "when |;",
             "when stone |5", "when stone < |;", "when stone <|", "when stone |;", "loop |;", "loop 1;end|", "|full;",
             "when hollow |hollow;", "note |1;", "|goo 1;", "|knocks;", "|oath 7 from 1;"};
         for (String text : second) {
-            roundFaultAtBar(text, 2);
+            Faults.roundAtBar(text, 2);
         }
         String[] fourth = {"go |0;", "go |100;", "back |0;", "back |100;", "loop |0;end;", "loop |100;",
             "when stone < |100;", "when stone = |9999;", "go |0 @"};
         for (String text : fourth) {
-            roundFaultAtBar(text, 4);
+            Faults.roundAtBar(text, 4);
         }
-        roundFaultAtBar("stop;".repeat(30) + "|stop;", 6);
-        roundFaultAtBar("stop;".repeat(30) + "|nothing;", 2);
-        roundFaultAtBar("stop;".repeat(30) + "|end;", 2);
-        roundFaultAtBar("stop;".repeat(29) + "loop 1;end;|go @", 6);
-        roundFaultAtBar("loop 1;when full;loop 2;|when full;", 7);
-        roundFaultAtBar("loop 1;when full;loop 2;|loop 0;", 7);
-        roundFaultAtBar("loop 1;when full;loop 2;end;loop 3;knock;|loop 0;", 7);
-        roundFaultAtBar("knock;".repeat(27) + "loop 1;loop 1;loop 1;|loop 1;", 6);
+        Faults.roundAtBar("stop;".repeat(30) + "|stop;", 6);
+        Faults.roundAtBar("stop;".repeat(30) + "|nothing;", 2);
+        Faults.roundAtBar("stop;".repeat(30) + "|end;", 2);
+        Faults.roundAtBar("stop;".repeat(29) + "loop 1;end;|go @", 6);
+        Faults.roundAtBar("loop 1;when full;loop 2;|when full;", 7);
+        Faults.roundAtBar("loop 1;when full;loop 2;|loop 0;", 7);
+        Faults.roundAtBar("loop 1;when full;loop 2;end;loop 3;knock;|loop 0;", 7);
+        Faults.roundAtBar("knock;".repeat(27) + "loop 1;loop 1;loop 1;|loop 1;", 6);
         // the text's length, blanks and all
         HollowWall x = new HollowWall();
         Checks.refused(x, "open", Checks.round(x, "loop 1;  "), 10);
