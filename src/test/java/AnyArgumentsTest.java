@@ -6,6 +6,9 @@ import java.util.Random;
  */
 public final class AnyArgumentsTest {
     private static final int CALLS = 51;
+    // An object is used for at most 512 calls; at most so many are made by callOne().
+    private static final int CALLS_MOST = 512;
+    private static final int CALLS_OF_ONE = 130;
     // By call: the STATUS values but 0 that it can have.
     private static final String[] CAN = {"1 5 6", "1 3 4", "1 3 4", "1 3 11 6 4", "", "5 10", "5 10", "", "5", "2 5 8", "2 5 8",
         "2 5", "8", "2 8", "", "2", "", "8", "8", "2", "2 5", "", "8", "8", "8", "8", "5 8", "8", "2 8", "2 8 9", "5 8 9", "",
@@ -13,15 +16,16 @@ public final class AnyArgumentsTest {
 
     private final Random draws;
     private final HollowWall x = new HollowWall();
+    private int calls = 0;
 
     private AnyArgumentsTest(long seed) {
         draws = new Random(seed);
     }
 
     public static void main(String[] args) {
-        for (int seed = 0; seed < 400; seed++) {
+        for (int seed = 0; seed < 1500; seed++) {
             AnyArgumentsTest run = new AnyArgumentsTest(seed);
-            for (int i = 0; i < 512; i++) {
+            while (run.calls < CALLS_MOST - CALLS_OF_ONE) {
                 run.callOne();
             }
         }
@@ -64,6 +68,7 @@ public final class AnyArgumentsTest {
         }
         String before = draws.nextInt(20) == 0 ? tellAll() : null;
         x.many(0);
+        calls += 4;
         long got = make(call);
         int status = x.status();
         Checks.holds("status " + status + " of call " + call,
@@ -88,11 +93,13 @@ public final class AnyArgumentsTest {
             case 1: text = "loop 4;knock;when hollow;note;turn;end;go 3;end;"; break;
             default: text = new Model(draws, 13, 96).text; break;
         }
-        while (x.feed(0, 0, 0, 0, 0) != HollowWall.NONE && draws.nextBoolean()) {
-            Checks.feed(x, text);
+        while (x.feed(0, 0, 0, 0, 0) != HollowWall.NONE && draws.nextInt(4) == 0) {
+            x.feed(Checks.signAt(text, 0) << 24, 0, 0, 0, 0);
+            calls += 2;
         }
-        x.round(300);
+        x.round(0);
         Checks.feed(x, text);
+        calls += 4 + text.length() / 20;
         int n = draws.nextInt(10) == 0 ? draws.nextInt(text.length() + 1) : text.length();
         if (text.startsWith("oath")) {
             x.wall(n);
@@ -102,6 +109,7 @@ public final class AnyArgumentsTest {
     }
 
     private void withoutStatus(int call) {
+        calls += 6;
         int status = x.status();
         if (call == 4) {
             x.feed(any(), any(), any(), any(), any());
@@ -171,29 +179,24 @@ public final class AnyArgumentsTest {
         }
     }
 
-    /** All that can be asked without changing anything. */
+    /** Some of what can be asked without changing anything: RefusedCallsTest asks for all. */
     private String tellAll() {
+        calls += 60;
         StringBuilder told = new StringBuilder();
         for (int what = 0; what < 9; what++) {
             told.append(x.many(what)).append(' ');
         }
-        for (int s = 0; s < x.many(0); s++) {
-            for (int what = 0; what < 8; what++) {
-                told.append(x.stone(s, what)).append(' ');
-            }
+        for (int what = 0; what < 8; what++) {
+            told.append(x.stone(0, what)).append(' ').append(x.stone(1, what)).append(' ');
         }
         for (int tray = 0; tray < 4; tray++) {
-            for (int place = 0; place < 60; place++) {
-                told.append(x.read(tray, place)).append(' ').append(x.status()).append(' ');
-            }
-        }
-        for (int k = 0; k < 96; k++) {
-            told.append(x.slipAt(k, 0)).append(' ').append(x.slipAt(k, 1)).append(' ');
+            told.append(x.read(tray, 0)).append(' ').append(x.status()).append(' ').append(x.read(tray, 1)).append(' ');
         }
         for (int what = 0; what < 4; what++) {
-            told.append(x.walked(what)).append(' ').append(x.mason(what, 0)).append(' ').append(x.mason(what, 1)).append(' ');
+            told.append(x.walked(what)).append(' ').append(x.mason(what, 0)).append(' ');
         }
-        told.append(x.firstCount()).append(' ').append(x.top()).append(' ').append(x.bottom());
+        told.append(x.slipAt(0, 0)).append(' ').append(x.slipAt(0, 1)).append(' ').append(x.slipAt(1, 0));
+        told.append(' ').append(x.firstCount()).append(' ').append(x.top()).append(' ').append(x.bottom());
         return told.append(' ').append(x.fault(0)).append(' ').append(x.fault(1)).toString();
     }
 }

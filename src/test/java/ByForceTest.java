@@ -3,6 +3,8 @@ import java.util.Random;
 
 /** Promises 13 to 23, 28 to 40 and 44 to 46 on drawn WALLS, against answers found by going through all there is. */
 public final class ByForceTest {
+    private static final int STONES_OF_ONE = 12;
+    private static final int OATHS_OF_ONE = 12;
     private static HollowWall used = new HollowWall();
     private static int wallsBuilt = 0;
 
@@ -20,9 +22,9 @@ public final class ByForceTest {
         Checks.end();
     }
 
-    /** Several WALLS are built in one object, so that what is left of those ahead would be seen. */
+    /** Two WALLS are built in one object, so that what is left of the one ahead would be seen. */
     private static HollowWall built(Model m) {
-        if (wallsBuilt % 8 == 0) {
+        if (wallsBuilt % 2 == 0) {
             used = new HollowWall();
         }
         wallsBuilt++;
@@ -44,6 +46,8 @@ public final class ByForceTest {
             Checks.same("nextHollow", x.nextHollow(s), next);
         }
         for (int s = 0; s < m.stones; s++) {
+            // An object is used for at most 512 calls.
+            x = s % STONES_OF_ONE == 0 ? built(m) : x;
             Checks.fine(x, "true count", x.stone(s, 3), m.trueCount(s));
             Checks.fine(x, "sworn count", x.stone(s, 4), m.swornCount(s));
             Checks.same("who laid it", x.stone(s, 2), m.laidBy(s));
@@ -185,9 +189,11 @@ public final class ByForceTest {
                 blamed += slipped ? 1 : 0;
             }
             Checks.accepted(x, "blame", x.blame(k, free));
-            Checks.same("blame", x.top() * least.size(), x.bottom() * blamed);
-            for (int d = 2; d <= x.bottom(); d++) {
-                Checks.holds("no common divisor", x.top() % d != 0 || x.bottom() % d != 0);
+            long top = x.top();
+            long bottom = x.bottom();
+            Checks.same("blame", top * least.size(), bottom * blamed);
+            for (int d = 2; d <= bottom; d++) {
+                Checks.holds("no common divisor", top % d != 0 || bottom % d != 0);
             }
         }
     }
@@ -244,11 +250,11 @@ public final class ByForceTest {
                 for (int s = 0; s < m.stones; s++) {
                     good &= m.notes[s] < 0 || m.notes[s] == ((f + s) % o == 0 ? 1 : 0);
                 }
-                if (good) {
+                if (good && oaths < OATHS_OF_ONE) {
                     Checks.fine(x, "oathAt 0", x.oathAt(oaths, 0), o);
                     Checks.fine(x, "oathAt 1", x.oathAt(oaths, 1), f);
-                    oaths++;
                 }
+                oaths += good ? 1 : 0;
             }
         }
         Checks.fine(x, "oaths", x.oaths(), oaths);

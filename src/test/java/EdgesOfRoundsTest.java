@@ -415,6 +415,17 @@ public final class EdgesOfRoundsTest {
         }
         Checks.refused(x, "what 4", x.walked(4), 5);
         Checks.refused(x, "what -1", x.walked(-1), 5);
+        HollowWall y = with(WALL, "loop 99;knock;note;loop 9;end;loop 9;end;loop 9;end;end;", 0);
+        y.walk(0, 16);
+        int[] most = {80, 80, 80, 1};
+        for (int what = 0; what < 4; what++) {
+            Checks.fine(y, "walked " + what, y.walked(what), most[what]);
+        }
+        Checks.round(y, "go 1;");
+        y.walk(0, 16);
+        for (int what = 0; what < 4; what++) {
+            Checks.fine(y, "each walk is counted anew: " + what, y.walked(what), 0);
+        }
     }
 
     private static void roundStaysTillAnother() {

@@ -222,6 +222,8 @@ public final class EdgesOfStonesTest {
         Checks.fine(x, "it, too", x.nextHollow(95), 95);
         Checks.fine(x, "the one behind", x.nextHollow(94), 95);
         HollowWall y = Checks.built("oath 13 from 13;course 13;");
+        Checks.fine(y, "the first is STONE 0", y.hollowAt(0), 0);
+        Checks.refused(y, "no second", y.hollowAt(1), 8);
         Checks.fine(y, "it, too", y.nextHollow(0), 0);
         Checks.refused(y, "none behind the only one", y.nextHollow(1), 8);
         Checks.refused(y, "none at the end", y.nextHollow(12), 8);

@@ -101,6 +101,17 @@ public final class EdgesOfTextsTest {
         Checks.refused(x, "cut behind its 1", x.wall(22), 10);
         Checks.same("fault", x.fault(0), 2);
         Checks.same("place", x.fault(1), 22);
+        for (String cut : new String[] {"go 1;sto|p;", "go 1;|stop;", "go 1;stop|;", "go 1;s|top"}) {
+            int n = cut.indexOf('|');
+            Checks.feed(x, cut.replace("|", ""));
+            x.round(n);
+            boolean whole = n == 5;
+            Checks.same("fault of " + cut, x.fault(0), whole ? 0 : 2);
+            Checks.same("place of " + cut, x.fault(1), whole ? HollowWall.NONE : n == 9 ? 9 : 5);
+        }
+        Checks.feed(x, "go 12;");
+        Checks.refused(x, "go 1", x.round(4), 10);
+        Checks.same("place", x.fault(1), 4);
         Checks.feed(x, NINE);
         Checks.refused(x, "more than the tape has", x.wall(41), 5);
         Checks.refused(x, "below 0", x.wall(-1), 5);

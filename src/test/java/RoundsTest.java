@@ -399,7 +399,7 @@ public final class RoundsTest {
         for (int i = 0; i < 2000; i++) {
             Model m = new Model(draws, 6, 30);
             // Several ROUNDS come to one object, some behind a faulty one that is left open.
-            x = i % 4 == 0 ? new HollowWall() : x;
+            x = i % 2 == 0 ? new HollowWall() : x;
             Checks.fine(x, "wall", Checks.wall(x, m.text), m.stones);
             if (i % 3 == 0) {
                 Checks.refused(x, "an open round", Checks.round(x, "loop 3;when full;knock;"), 10);
@@ -415,7 +415,7 @@ public final class RoundsTest {
                 continue;
             }
             Checks.fine(x, "steps of " + told, got, count(steps));
-            for (int k = 0; k < 3; k++) {
+            for (int k = 0; k < 2; k++) {
                 goOne(x, m, steps, draws);
             }
         }
