@@ -22,6 +22,7 @@ public final class EdgesOfReadingsTest {
         explainedNone();
         sureOfAll();
         blameOfAll();
+        blameOfMostWays();
         twelveToTell();
         thirteenToTell();
         noneToTell();
@@ -353,6 +354,46 @@ public final class EdgesOfReadingsTest {
         Checks.denied(x, "no MASON", x.blame(4, false), 2);
         Checks.fraction(x, "as ahead", 1, 1);
         Checks.denied(x, "no MASON", x.blame(-1, false), 2);
+    }
+
+    /** b laid 12 to 20: some of two of the three places at which there are SLIPS, so that the FRACTION is a long one. */
+    private static void blameOfMostWays() {
+        HollowWall x = new HollowWall();
+        ManyWays.below(x, "mason a lays 12 costs 1;mason b lays 9 costs 1;mason c lays 43 costs 1;");
+        leastAndWays(x, false, 5, 999998);
+        Checks.same("of STONES 1 to 16", pairs(x, 0, 99, 99), 127);
+        Checks.same("of STONES 17 to 32", pairs(x, 16, 99, 99), 254);
+        long without = (long) pairs(x, 0, 12, 20) * pairs(x, 16, 12, 20) * 31;
+        long blamed = 999998 - without;
+        Checks.holds("some, not all", without > 0 && blamed > 0);
+        Checks.accepted(x, "blame", x.blame(1, false));
+        Checks.same("blame of b", x.top() * 999998, x.bottom() * blamed);
+        Checks.holds("a long one", x.bottom() > 10000);
+        for (int d = 2; d <= x.bottom() && d < 150; d++) {
+            Checks.holds("no common divisor", x.top() % d != 0 || x.bottom() % d != 0);
+        }
+    }
+
+    /** How many couples of SLIPS, by 8 together, explain 16 STONES behind a hollow one, none of them between two STONES. */
+    private static int pairs(HollowWall x, int base, int from, int to) {
+        int[] notes = new int[17];
+        for (int s = 0; s < 17; s++) {
+            notes[s] = x.stone(base + s, 6);
+        }
+        int found = 0;
+        for (int one = 1; one < 16; one++) {
+            for (int two = one + 1; two <= 16; two++) {
+                for (int by = 1; by < 8; by++) {
+                    boolean good = (base + one < from || base + one > to) && (base + two < from || base + two > to);
+                    for (int s = 1; s < 17; s++) {
+                        int count = s + (s >= one ? by : 0) + (s >= two ? 8 - by : 0);
+                        good &= notes[s] < 0 || notes[s] == (count % 8 == 0 ? 1 : 0);
+                    }
+                    found += good ? 1 : 0;
+                }
+            }
+        }
+        return found;
     }
 
     /** "of at most 12 READINGS" */

@@ -184,6 +184,13 @@ public final class EdgesOfReuseTest {
         x.clear();
         Checks.fine(x, "four again", x.telling(true, 0), 3);
         Checks.fine(x, "the first again", x.telling(true, 1), 0);
+        // STONE 2 was the first to be asked, now 0 and all behind it part them alike.
+        x.note(0, 0);
+        x.note(1, 0);
+        Checks.fine(x, "2 is asked", x.telling(true, 1), 2);
+        Checks.wall(x, "oath 2 from 1;course 5;");
+        Checks.fine(x, "one is enough", x.telling(true, 0), 1);
+        Checks.fine(x, "0 is asked", x.telling(true, 1), 0);
         HollowWall one = Checks.built("oath 2 from 1;course 1;");
         Checks.fine(one, "STONE 0 alone", one.telling(true, 0), 1);
         Checks.fine(one, "STONE 0 alone", one.telling(true, 1), 0);

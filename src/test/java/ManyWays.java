@@ -21,7 +21,12 @@ final class ManyWays {
      * 8 - b for the second, else there are 8 each.
      */
     static void below(HollowWall x) {
-        Checks.wall(x, "oath 8 from 8;course 16;course 16;course 16;course 16;mason a lays 64 costs 1;");
+        below(x, "mason a lays 64 costs 1;");
+    }
+
+    /** Laid by others, whose SLIPS COST 1, too. */
+    static void below(HollowWall x, String masons) {
+        Checks.wall(x, "oath 8 from 8;course 16;course 16;course 16;course 16;" + masons);
         hollow(x, 0, 16, 32, 63);
         full(x, 0, 8, 1, 4, 6, 7, 9, 10, 11, 12, 13);
         full(x, 16, 8, 3, 4, 5, 10, 11, 12, 13);
