@@ -18,6 +18,7 @@ public final class EdgesOfRoundsTest {
         loopsWithin();
         stops();
         noSteps();
+        thirtySteps();
         fourHundred();
         fourHundredWithin();
         seedsAndErrs();
@@ -224,6 +225,19 @@ public final class EdgesOfRoundsTest {
         Checks.fine(x, "where it was", x.many(7), 3);
         Checks.accepted(x, "odds", x.odds(0, 1, 0));
         Checks.fraction(x, "nothing is NOTED: all is true", 1, 1);
+    }
+
+    /** The longest ROUNDS there may be: each STEP is done. */
+    private static void thirtySteps() {
+        loops("loop1;end;".repeat(30), 30, 0);
+        loops("go 1;".repeat(30), 30, 30);
+        loops("loop2;end;".repeat(29) + "go 9;", 30, 9);
+        loops("loop 2;when first;loop 3;" + "go 1;".repeat(27) + "end;end;end;", 1 + 2 + 1 + 3 * 27, 81);
+        HollowWall x = with(WALL, "knock;note;go 1;".repeat(10), 0);
+        Checks.fine(x, "all of them", x.walk(0, 0), 30);
+        Checks.fine(x, "KNOCKS", x.walked(0), 10);
+        Checks.fine(x, "NOTES", x.walked(2), 10);
+        Checks.fine(x, "all are NOTED", x.many(8), 10);
     }
 
     private static void leaves(String round, int steps, int left) {
