@@ -1544,17 +1544,20 @@ public final class HollowWall {
         }
 
         private boolean readTest(Text text, int at) {
-            if (text.isWord("stone")) {
+            boolean compares = text.isWord("stone");
+            if (compares) {
                 text.advance();
-                return readCompare(text, at);
             }
-            int test = testKind(text);
+            int test = compares ? compareKind(text) : testKind(text);
             if (test == NONE) {
                 return text.misplaced();
             }
             round.test[at] = test;
             text.advance();
-            return true;
+            if (compares) {
+                round.number[at] = text.takeNumber(0, 99);
+            }
+            return round.number[at] != NONE;
         }
 
         private static int testKind(Text text) {
@@ -1570,19 +1573,14 @@ public final class HollowWall {
             return text.isWord("first") ? Round.IF_FIRST : NONE;
         }
 
-        private boolean readCompare(Text text, int at) {
+        private static int compareKind(Text text) {
             if (text.isSign('<')) {
-                round.test[at] = Round.IF_BELOW;
-            } else if (text.isSign('>')) {
-                round.test[at] = Round.IF_ABOVE;
-            } else if (text.isSign('=')) {
-                round.test[at] = Round.IF_SAME;
-            } else {
-                return text.misplaced();
+                return Round.IF_BELOW;
             }
-            text.advance();
-            round.number[at] = text.takeNumber(0, 99);
-            return round.number[at] != NONE;
+            if (text.isSign('>')) {
+                return Round.IF_ABOVE;
+            }
+            return text.isSign('=') ? Round.IF_SAME : NONE;
         }
     }
 
